@@ -16,6 +16,8 @@ public final class Sumlarder {
     private static final int DEEPEST = 45;
     // 20 has 627 ways; the bound only has to be out of reach
     private static final int WAYS_BOUND = 1000000;
+    // stands where no worth is kept; no worth is below 0
+    private static final int NONE = -1;
 
     private final Memory[] memories;
     private final Ledger[] ledgers;
@@ -545,9 +547,12 @@ public final class Sumlarder {
         private static final int SLOTS = KEPT_KINDS * SPAN * SPAN;
         private static final int NO_SLOT = -1;
 
-        private final boolean[] taken = new boolean[SLOTS];
         private final int[] worths = new int[SLOTS];
         private int size;
+
+        Memory() {
+            Arrays.fill(worths, NONE);
+        }
 
         int size() {
             return size;
@@ -566,7 +571,7 @@ public final class Sumlarder {
                 return 0;
             }
             counts.wanted++;
-            if (taken[slot]) {
+            if (worths[slot] != NONE) {
                 counts.found++;
                 return worths[slot];
             }
@@ -601,13 +606,12 @@ public final class Sumlarder {
         }
 
         boolean keeps(int kind, int number, int measure) {
-            int slot = slotOf(kind, number, measure);
-            return slot != NO_SLOT && taken[slot];
+            return keptWorth(kind, number, measure) != NONE;
         }
 
         int keptWorth(int kind, int number, int measure) {
             int slot = slotOf(kind, number, measure);
-            return slot == NO_SLOT ? 0 : worths[slot];
+            return slot == NO_SLOT ? NONE : worths[slot];
         }
 
         boolean keepsWith(int kind, int number, int measure, int claim) {
@@ -619,8 +623,7 @@ public final class Sumlarder {
             if (slot == NO_SLOT) {
                 return;
             }
-            if (!taken[slot]) {
-                taken[slot] = true;
+            if (worths[slot] == NONE) {
                 size++;
             }
             worths[slot] = worth;
@@ -628,8 +631,8 @@ public final class Sumlarder {
 
         void drop(int kind, int number, int measure) {
             int slot = slotOf(kind, number, measure);
-            if (slot != NO_SLOT && taken[slot]) {
-                taken[slot] = false;
+            if (slot != NO_SLOT && worths[slot] != NONE) {
+                worths[slot] = NONE;
                 size--;
             }
         }
@@ -637,8 +640,8 @@ public final class Sumlarder {
         int dropEach(int what, int value) {
             int dropped = 0;
             for (int slot = 0; slot < SLOTS; slot++) {
-                if (taken[slot] && aspect(slot, what) == value) {
-                    taken[slot] = false;
+                if (worths[slot] != NONE && aspect(slot, what) == value) {
+                    worths[slot] = NONE;
                     dropped++;
                 }
             }
@@ -648,27 +651,21 @@ public final class Sumlarder {
 
         int dropAll() {
             int dropped = size;
-            for (int slot = 0; slot < SLOTS; slot++) {
-                taken[slot] = false;
-            }
+            Arrays.fill(worths, NONE);
             size = 0;
             return dropped;
         }
 
         void become(Memory other) {
-            for (int slot = 0; slot < SLOTS; slot++) {
-                taken[slot] = other.taken[slot];
-                worths[slot] = other.worths[slot];
-            }
+            System.arraycopy(other.worths, 0, worths, 0, SLOTS);
             size = other.size;
         }
 
         int takeIn(Memory other) {
             int added = 0;
             for (int slot = 0; slot < SLOTS; slot++) {
-                if (other.taken[slot]) {
-                    if (!taken[slot]) {
-                        taken[slot] = true;
+                if (other.worths[slot] != NONE) {
+                    if (worths[slot] == NONE) {
                         added++;
                     }
                     worths[slot] = other.worths[slot];
@@ -681,7 +678,7 @@ public final class Sumlarder {
         int howMany(int what, int value) {
             int many = 0;
             for (int slot = 0; slot < SLOTS; slot++) {
-                if (taken[slot] && aspect(slot, what) == value) {
+                if (worths[slot] != NONE && aspect(slot, what) == value) {
                     many++;
                 }
             }
@@ -691,7 +688,7 @@ public final class Sumlarder {
         int mark() {
             int sum = 0;
             for (int slot = 0; slot < SLOTS; slot++) {
-                if (taken[slot]) {
+                if (worths[slot] != NONE) {
                     sum += codeOf(slot) ^ worths[slot];
                 }
             }
@@ -701,7 +698,7 @@ public final class Sumlarder {
         int sumOfWorths() {
             int sum = 0;
             for (int slot = 0; slot < SLOTS; slot++) {
-                if (taken[slot]) {
+                if (worths[slot] != NONE) {
                     sum += worths[slot];
                 }
             }
@@ -710,10 +707,7 @@ public final class Sumlarder {
 
         boolean isLike(Memory other) {
             for (int slot = 0; slot < SLOTS; slot++) {
-                if (taken[slot] != other.taken[slot]) {
-                    return false;
-                }
-                if (taken[slot] && worths[slot] != other.worths[slot]) {
+                if (worths[slot] != other.worths[slot]) {
                     return false;
                 }
             }
@@ -747,7 +741,7 @@ public final class Sumlarder {
         boolean isWellCounted() {
             int many = 0;
             for (int slot = 0; slot < SLOTS; slot++) {
-                if (taken[slot]) {
+                if (worths[slot] != NONE) {
                     if (rests(numberOf(slot), measureOf(slot))) {
                         return false;
                     }
@@ -766,7 +760,7 @@ public final class Sumlarder {
                 case 2:
                     return measureOf(slot);
                 default:
-                    return slot < 0 || slot >= SLOTS ? 0 : worths[slot];
+                    return slot < 0 || slot >= SLOTS ? NONE : worths[slot];
             }
         }
 
@@ -854,12 +848,12 @@ public final class Sumlarder {
     /** Some numbers with their worths, reckoned by one rule. */
     private static final class Ledger {
         private final int rule;
-        private final boolean[] taken = new boolean[LARGEST + 1];
         private final int[] worths = new int[LARGEST + 1];
         private int size;
 
         Ledger(int rule) {
             this.rule = rule;
+            Arrays.fill(worths, NONE);
         }
 
         int size() {
@@ -878,14 +872,13 @@ public final class Sumlarder {
                 return 0;
             }
             counts.wanted++;
-            if (taken[number]) {
+            if (worths[number] != NONE) {
                 counts.found++;
                 return worths[number];
             }
             int worth = rule == 0
                     ? byPentagons(number, counts, depth + 1)
                     : byDivisors(number, counts, depth + 1);
-            taken[number] = true;
             worths[number] = worth;
             size++;
             counts.made++;
@@ -928,25 +921,23 @@ public final class Sumlarder {
         }
 
         boolean keeps(int number) {
-            return number >= 1 && number <= LARGEST && taken[number];
+            return keptWorth(number) != NONE;
         }
 
         int keptWorth(int number) {
-            return number < 1 || number > LARGEST ? 0 : worths[number];
+            return number < 1 || number > LARGEST ? NONE : worths[number];
         }
 
         void drop(int number) {
-            if (keeps(number)) {
-                taken[number] = false;
+            if (number >= 1 && number <= LARGEST && worths[number] != NONE) {
+                worths[number] = NONE;
                 size--;
             }
         }
 
         int dropAll() {
             int dropped = size;
-            for (int number = 1; number <= LARGEST; number++) {
-                taken[number] = false;
-            }
+            Arrays.fill(worths, NONE);
             size = 0;
             return dropped;
         }
@@ -954,7 +945,7 @@ public final class Sumlarder {
         int mark() {
             int sum = 0;
             for (int number = 1; number <= LARGEST; number++) {
-                if (taken[number]) {
+                if (worths[number] != NONE) {
                     sum += number ^ worths[number];
                 }
             }

@@ -63,6 +63,10 @@ public final class DesksTest {
         s.layFirst(0, 20);
         Checks.act("takePart 20", s, () -> s.takePart(0, 20), 0);
         Checks.undone("takePart 20", s, () -> s.takePart(0, 20));
+        s.addPart(1, 1, 2);
+        Checks.act("takePart 1", s, () -> s.takePart(1, 1), 1);
+        Checks.act("takePart 1", s, () -> s.takePart(1, 1), 0);
+        Checks.undone("takePart 1", s, () -> s.takePart(1, 1));
     }
 
     private static void layFirst() {
@@ -200,6 +204,17 @@ public final class DesksTest {
             int w = which;
             Checks.asks("way of none", s, () -> s.way(1, w), 0);
         }
+        wayOf(laid(20), 20, 1, 1);
+        wayOf(laid(19, 1), 20, 2, 2);
+        wayOf(laid(1, 1, 1), 3, 3, 1);
+    }
+
+    private static void wayOf(Sumlarder s, int number, int parts, int different) {
+        String text = s.wayText(0);
+        Checks.asks(text + " way 0", s, () -> s.way(0, 0), number);
+        Checks.asks(text + " way 1", s, () -> s.way(0, 1), parts);
+        Checks.asks(text + " way 2", s, () -> s.way(0, 2), different);
+        Checks.act(text + " copyDesk", s, () -> s.copyDesk(0), different);
     }
 
     private static void wayText() {
@@ -245,7 +260,10 @@ public final class DesksTest {
         s.next(1);
         Checks.asks("the same number, not the same", s, () -> s.isSameWay(), false);
         s.layFirst(0, 20);
+        s.layFirst(1, 0);
         Checks.asks("isSameWay not, 20", s, () -> s.isSameWay(), false);
+        s.layFirst(0, 1);
+        Checks.asks("isSameWay not, 1", s, () -> s.isSameWay(), false);
     }
 
     private static void wrongDesks() {

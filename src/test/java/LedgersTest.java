@@ -77,13 +77,39 @@ public final class LedgersTest {
             Checks.act("forget all", s, () -> s.forgetRule(r, 0), 20);
             Checks.due("forgot all", s.ledger(r, 0), 0);
             Checks.due("forgot all marks", s.ledger(r, 1), 0);
-            Checks.undone("forgotten", s, () -> s.forgetRule(r, 20));
+            for (int number = 1; number <= 20; number++) {
+                int n = number;
+                Checks.undone("forgotten", s, () -> s.forgetRule(r, n));
+                Checks.due("forgotten", s.ruleWorth(r, n, 0), -1);
+            }
+            forgetOneByOne(r);
         }
         Sumlarder s = new Sumlarder();
         s.rule(0, 9);
         s.rule(1, 9);
         s.forgetRule(0, 0);
         Checks.due("another ledger keeps on", s.ledger(1, 0), 9);
+    }
+
+    private static void forgetOneByOne(int rule) {
+        Sumlarder s = new Sumlarder();
+        s.rule(rule, 20);
+        for (int number = 20; number >= 1; number--) {
+            int n = number;
+            int due = rule == 2 ? UNLIKE[n] : ALL[n];
+            Checks.asks("ruleWorth", s, () -> s.ruleWorth(rule, n, 0), due);
+            Checks.act("forgetRule", s, () -> s.forgetRule(rule, n), due);
+            Checks.due("left", s.ledger(rule, 0), n - 1);
+            Checks.due("left marks", s.ledger(rule, 1), marks(rule, n - 1));
+        }
+    }
+
+    private static int marks(int rule, int last) {
+        int sum = 0;
+        for (int n = 1; n <= last; n++) {
+            sum += n ^ (rule == 2 ? UNLIKE[n] : ALL[n]);
+        }
+        return sum;
     }
 
     private static void ledger() {
@@ -96,6 +122,11 @@ public final class LedgersTest {
                 (1 ^ 1) + (2 ^ 1) + (3 ^ 2) + (4 ^ 2) + (5 ^ 3));
         s.forgetRule(2, 4);
         Checks.asks("ledger 1", s, () -> s.ledger(2, 1), (1 ^ 1) + (2 ^ 1) + (3 ^ 2) + (5 ^ 3));
+        for (int rule = 0; rule <= 2; rule++) {
+            int r = rule;
+            s.rule(r, 20);
+            Checks.asks("ledger 1 of all", s, () -> s.ledger(r, 1), marks(r, 20));
+        }
     }
 
     private static void ruleWorth() {

@@ -185,6 +185,11 @@ public final class MemoriesTest {
         Checks.act("place of 2+1", s, () -> s.place(1, 1), 1);
         counts("place of 2+1", s, 10, 6, 4);
         Checks.due("place leaves the desk", s.wayText(1), "2+1");
+        // one part of 20: the same case twice, so the second time it is found
+        Sumlarder whole = new Sumlarder();
+        whole.layFirst(0, 20);
+        Checks.act("place of 20", whole, () -> whole.place(0, 0), 0);
+        counts("place of 20", whole, 301, 210, 91);
         for (int bad : new int[] {-1, 2, 3, MIN, MAX}) {
             Checks.outOfBounds("place desk", s, () -> s.place(0, bad));
         }
