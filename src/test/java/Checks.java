@@ -8,16 +8,34 @@ final class Checks {
 
     private static int right = 0;
     private static int wrong = 0;
+    private static String sentence = "";
+    private static int underSentence = 1;
 
     private Checks() {
     }
 
+    /** What follows, up to the next sentence, looks at these words of the document. */
+    static void sentence(String where, String words) {
+        leaveSentence();
+        sentence = where + ", \"" + words + "\": ";
+        underSentence = 0;
+    }
+
+    private static void leaveSentence() {
+        if (underSentence == 0) {
+            wrong++;
+            System.out.println(sentence + "nothing was looked at");
+        }
+        underSentence = 1;
+    }
+
     static void due(String what, Object got, Object want) {
+        underSentence++;
         if (Objects.equals(got, want)) {
             right++;
         } else {
             wrong++;
-            System.out.println(what + " answered " + got + ", due is " + want);
+            System.out.println(sentence + what + " answered " + got + ", due is " + want);
         }
     }
 
@@ -52,15 +70,20 @@ final class Checks {
         due(what + ", told -9", object.tally(4), undone);
     }
 
-    /** The call tells -9, and nothing but the count of these changes. */
+    /** The call is an act that leaves all as it was: only the count of acts goes up. */
+    static void idleAct(String what, Sumlarder object, Call call, Object want) {
+        long before = object.digest();
+        due(what, call.run(), want);
+        // the acts are the sixth number from the end of the digest
+        due(what + ", digest behind it", object.digest(), before + 31L * 31 * 31 * 31 * 31);
+    }
+
+    /** The call tells -9, and nothing but the count of these goes up. */
     static void undone(String what, Sumlarder object, Call call) {
-        int[] before = tallies(object);
-        String held = held(object);
+        long before = object.digest();
         due(what, call.run(), -9);
-        before[4]++;
-        due(what + ", tallies", java.util.Arrays.toString(tallies(object)),
-                java.util.Arrays.toString(before));
-        due(what + ", what is held", held(object), held);
+        // the count of -9 is the last number but one of the digest
+        due(what + ", digest behind it", object.digest(), before + 31);
     }
 
     /** The call only asks: it answers so and changes nothing. */
@@ -70,24 +93,8 @@ final class Checks {
         due(what + ", digest behind it", object.digest(), before);
     }
 
-    private static int[] tallies(Sumlarder object) {
-        int[] all = new int[6];
-        for (int what = 0; what < 6; what++) {
-            all[what] = object.tally(what);
-        }
-        return all;
-    }
-
-    private static String held(Sumlarder object) {
-        StringBuilder all = new StringBuilder();
-        for (int i = 0; i < 3; i++) {
-            all.append(object.about(i, 0)).append(' ').append(object.about(i, 1)).append(' ');
-            all.append(object.ledger(i, 0)).append(' ').append(object.ledger(i, 1)).append(' ');
-        }
-        return all.append(object.wayText(0)).append(' ').append(object.wayText(1)).toString();
-    }
-
     static void finish(String name) {
+        leaveSentence();
         System.out.println(name + ": " + right + " answers as due, " + wrong + " not");
         if (wrong != 0 || right == 0) {
             System.exit(1);

@@ -2,9 +2,6 @@ import java.util.List;
 
 /** Promises 27 to 39: the desks. */
 public final class DesksTest {
-    private static final int MIN = Integer.MIN_VALUE;
-    private static final int MAX = Integer.MAX_VALUE;
-
     public static void main(String[] args) {
         addPart();
         takePart();
@@ -20,8 +17,6 @@ public final class DesksTest {
         wayText();
         isOf();
         isSameWay();
-        wrongDesks();
-        wrongArguments();
         Checks.finish("DesksTest");
     }
 
@@ -29,6 +24,16 @@ public final class DesksTest {
         Sumlarder s = new Sumlarder();
         for (int part : parts) {
             s.addPart(0, part, 1);
+        }
+        return s;
+    }
+
+    private static Sumlarder laid(String text) {
+        Sumlarder s = new Sumlarder();
+        for (String part : text.split("[+]")) {
+            if (!part.isEmpty()) {
+                s.addPart(0, Integer.parseInt(part), 1);
+            }
         }
         return s;
     }
@@ -83,20 +88,30 @@ public final class DesksTest {
 
     private static void next() {
         for (int number = 0; number <= 20; number++) {
+            List<List<Integer>> all = Reference.ways(number);
             Sumlarder s = new Sumlarder();
             s.layFirst(1, number);
-            List<List<Integer>> all = Reference.ways(number);
             for (int at = 1; at < all.size(); at++) {
-                List<Integer> due = all.get(at);
-                Checks.act("next", s, () -> s.next(1), due.size());
-                Checks.due("next", "[" + s.wayText(1).replace("+", ", ") + "]", due.toString());
+                Sumlarder from = s;
+                Checks.act("next", s, () -> from.next(1), all.get(at).size());
+                Checks.due("next", s.wayText(1), text(all.get(at)));
+                // no object is asked more often than the document promises
+                if (at % 50 == 0) {
+                    s = laid(text(all.get(at)));
+                    s.copyDesk(0);
+                }
             }
-            Checks.undone("next of the last", s, () -> s.next(1));
-            Checks.undone("next of the last", s, () -> s.next(1));
+            Sumlarder last = s;
+            Checks.undone("next of the last", s, () -> last.next(1));
+            Checks.undone("next of the last", s, () -> last.next(1));
         }
         Sumlarder s = laid(4, 3, 1, 1);
         Checks.act("next", s, () -> s.next(0), 4);
         Checks.due("next", s.wayText(0), "4+2+2+1");
+    }
+
+    private static String text(List<Integer> way) {
+        return String.join("+", way.stream().map(String::valueOf).toList());
     }
 
     private static void turn() {
@@ -229,17 +244,17 @@ public final class DesksTest {
     }
 
     private static void isOf() {
-        Sumlarder s = laid(4, 3, 2, 1);
-        kinds(s, "4+3+2+1", new int[] {4, 4, 4, 99, 99, 4, 4, 4});
-        kinds(laid(5, 3, 3, 1), "5+3+3+1", new int[] {5, 4, 99, 5, 99, 99, 4, 99});
-        kinds(laid(5, 3, 1), "5+3+1", new int[] {5, 3, 5, 5, 5, 3, 3, 99});
-        kinds(laid(5, 1, 1, 1, 1), "5+1+1+1+1", new int[] {5, 5, 99, 5, 99, 99, 5, 5});
-        kinds(new Sumlarder(), "", new int[] {0, 0, 0, 0, 0, 0, 0, 0});
+        kinds("4+3+2+1", new int[] {4, 4, 4, 99, 99, 4, 4, 4});
+        kinds("5+3+3+1", new int[] {5, 4, 99, 5, 99, 99, 4, 99});
+        kinds("5+3+1", new int[] {5, 3, 5, 5, 5, 3, 3, 99});
+        kinds("5+1+1+1+1", new int[] {5, 5, 99, 5, 99, 99, 5, 5});
+        kinds("", new int[] {0, 0, 0, 0, 0, 0, 0, 0});
     }
 
     /** least[kind] is the least measure that fits; of kinds 1 and 5 it is the only one. */
-    private static void kinds(Sumlarder s, String text, int[] least) {
+    private static void kinds(String text, int[] least) {
         for (int kind = 0; kind <= 7; kind++) {
+            Sumlarder s = laid(text);
             for (int measure = 0; measure <= 20; measure++) {
                 int k = kind;
                 int m = measure;
@@ -264,51 +279,5 @@ public final class DesksTest {
         Checks.asks("isSameWay not, 20", s, () -> s.isSameWay(), false);
         s.layFirst(0, 1);
         Checks.asks("isSameWay not, 1", s, () -> s.isSameWay(), false);
-    }
-
-    private static void wrongDesks() {
-        Sumlarder s = laid(5, 3, 3);
-        for (int bad : new int[] {-1, 2, 3, MIN, MAX}) {
-            Checks.outOfBounds("addPart", s, () -> s.addPart(bad, 1, 1));
-            Checks.outOfBounds("addPart first", s, () -> s.addPart(bad, 0, 0));
-            Checks.outOfBounds("takePart", s, () -> s.takePart(bad, 1));
-            Checks.outOfBounds("takePart first", s, () -> s.takePart(bad, 21));
-            Checks.outOfBounds("layFirst", s, () -> s.layFirst(bad, 1));
-            Checks.outOfBounds("layFirst first", s, () -> s.layFirst(bad, 21));
-            Checks.outOfBounds("next", s, () -> s.next(bad));
-            Checks.outOfBounds("turn", s, () -> s.turn(bad));
-            Checks.outOfBounds("toUnlike", s, () -> s.toUnlike(bad));
-            Checks.outOfBounds("toOdd", s, () -> s.toOdd(bad));
-            Checks.outOfBounds("copyDesk", s, () -> s.copyDesk(bad));
-            Checks.outOfBounds("times", s, () -> s.times(bad, 1));
-            Checks.outOfBounds("times first", s, () -> s.times(bad, 0));
-            Checks.outOfBounds("way", s, () -> s.way(bad, 0));
-            Checks.outOfBounds("way first", s, () -> s.way(bad, 3));
-            Checks.outOfBounds("wayText", s, () -> s.wayText(bad));
-            Checks.outOfBounds("isOf", s, () -> s.isOf(bad, 0, 0));
-            Checks.outOfBounds("isOf first", s, () -> s.isOf(bad, 8, 21));
-        }
-    }
-
-    private static void wrongArguments() {
-        Sumlarder s = laid(5, 3, 3, 1, 1, 1);
-        for (int bad : new int[] {-1, 0, 21, MIN, MAX, 1 << 16, 1 << 30}) {
-            Checks.illegal("addPart part", s, () -> s.addPart(0, bad, 1));
-            Checks.illegal("addPart times", s, () -> s.addPart(0, 1, bad));
-            // exceptions go ahead of -9
-            Checks.illegal("addPart both", s, () -> s.addPart(0, 20, bad));
-            Checks.illegal("takePart part", s, () -> s.takePart(0, bad));
-            Checks.illegal("times part", s, () -> s.times(0, bad));
-        }
-        for (int bad : new int[] {-1, 21, MIN, MAX}) {
-            Checks.illegal("layFirst number", s, () -> s.layFirst(0, bad));
-            Checks.illegal("isOf measure", s, () -> s.isOf(0, 0, bad));
-        }
-        for (int bad : new int[] {-1, 3, MIN, MAX}) {
-            Checks.illegal("way which", s, () -> s.way(0, bad));
-        }
-        for (int bad : new int[] {-1, 8, MIN, MAX}) {
-            Checks.illegal("isOf kind", s, () -> s.isOf(0, bad, 3));
-        }
     }
 }

@@ -75,8 +75,13 @@ public final class FaceTest {
             }
         }
         Checks.due("the face", seen, due);
+        for (Class<?> inside : Sumlarder.class.getDeclaredClasses()) {
+            for (Method method : inside.getDeclaredMethods()) {
+                hidden.add(method.getName());
+            }
+        }
         hidden.retainAll(names);
-        Checks.due("private methods with a public name", hidden, Set.of());
+        Checks.due("hidden methods with a public name", hidden, Set.of());
     }
 
     private static String written(Method method) {

@@ -1,7 +1,5 @@
 /** Promises 23 to 26: the ledgers. */
 public final class LedgersTest {
-    private static final int MIN = Integer.MIN_VALUE;
-    private static final int MAX = Integer.MAX_VALUE;
     private static final int[] ALL = {
         1, 1, 2, 3, 5, 7, 11, 15, 22, 30, 42, 56, 77, 101, 135, 176, 231, 297, 385, 490, 627
     };
@@ -15,7 +13,6 @@ public final class LedgersTest {
         forgetRule();
         ledger();
         ruleWorth();
-        wrongArguments();
         Checks.finish("LedgersTest");
     }
 
@@ -142,30 +139,6 @@ public final class LedgersTest {
             Checks.asks("ruleWorth, never", s, () -> s.ruleWorth(2, 13, m), -1);
             Checks.asks("ruleWorth, elsewhere", s, () -> s.ruleWorth(1, 11, m), -1);
             Checks.asks("ruleWorth of 0", s, () -> s.ruleWorth(0, 0, m), -1);
-        }
-    }
-
-    private static void wrongArguments() {
-        Sumlarder s = new Sumlarder();
-        s.rule(0, 20);
-        for (int bad : new int[] {-1, 3, MIN, MAX}) {
-            Checks.outOfBounds("rule", s, () -> s.rule(bad, 4));
-            Checks.outOfBounds("rule first", s, () -> s.rule(bad, 21));
-            Checks.outOfBounds("forgetRule", s, () -> s.forgetRule(bad, 4));
-            Checks.outOfBounds("forgetRule first", s, () -> s.forgetRule(bad, -1));
-            Checks.outOfBounds("ledger", s, () -> s.ledger(bad, 0));
-            Checks.outOfBounds("ledger first", s, () -> s.ledger(bad, 2));
-            Checks.outOfBounds("ruleWorth", s, () -> s.ruleWorth(bad, 4, 0));
-            Checks.outOfBounds("ruleWorth first", s, () -> s.ruleWorth(bad, 21, 2));
-        }
-        for (int bad : new int[] {-1, 21, MIN, MAX}) {
-            Checks.illegal("rule number", s, () -> s.rule(0, bad));
-            Checks.illegal("forgetRule number", s, () -> s.forgetRule(0, bad));
-            Checks.illegal("ruleWorth number", s, () -> s.ruleWorth(0, bad, 0));
-        }
-        for (int bad : new int[] {-1, 2, MIN, MAX}) {
-            Checks.illegal("ledger which", s, () -> s.ledger(0, bad));
-            Checks.illegal("ruleWorth making", s, () -> s.ruleWorth(0, 4, bad));
         }
     }
 }

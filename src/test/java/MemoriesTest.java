@@ -1,3 +1,5 @@
+import java.util.List;
+
 /** Promises 1 to 22: memories, and the other roads to a worth. */
 public final class MemoriesTest {
     private static final int MIN = Integer.MIN_VALUE;
@@ -28,8 +30,6 @@ public final class MemoriesTest {
         isSame();
         walk();
         product();
-        wrongMemories();
-        wrongCases();
         Checks.finish("MemoriesTest");
     }
 
@@ -167,13 +167,16 @@ public final class MemoriesTest {
     private static void place() {
         for (int number = 0; number <= 20; number++) {
             Sumlarder s = new Sumlarder();
-            s.layFirst(0, number);
-            int ways = Reference.ways(number).size();
-            for (int ahead = 0; ahead < ways; ahead++) {
-                if (ahead % 10 == 0 || ways - ahead < 5) {
-                    Checks.due("place of " + s.wayText(0), s.place(0, 0), ahead);
+            int ahead = 0;
+            for (List<Integer> way : Reference.ways(number)) {
+                // no object is asked more often than the document promises
+                s = ahead % 20 == 0 ? new Sumlarder() : s;
+                s.layFirst(0, 0);
+                for (int part : way) {
+                    s.addPart(0, part, 1);
                 }
-                s.next(0);
+                Checks.due("place of " + way, s.place(0, 0), ahead);
+                ahead++;
             }
         }
         Sumlarder s = new Sumlarder();
@@ -504,70 +507,5 @@ public final class MemoriesTest {
             Checks.illegal(name, s, () -> walks ? s.walk(6, bad, 3) : s.product(6, bad, 3));
             Checks.illegal(name, s, () -> walks ? s.walk(7, 3, bad) : s.product(7, 3, bad));
         }
-    }
-
-    private static void wrongMemories() {
-        Sumlarder s = filled();
-        for (int bad : new int[] {-1, 3, MIN, MAX}) {
-            Checks.outOfBounds("know", s, () -> s.know(bad, 0, 4, 4));
-            Checks.outOfBounds("few", s, () -> s.few(bad, 4, 4));
-            Checks.outOfBounds("surplus", s, () -> s.surplus(bad, 4));
-            Checks.outOfBounds("place", s, () -> s.place(bad, 0));
-            Checks.outOfBounds("learn", s, () -> s.learn(bad, 0, 4, 4));
-            Checks.outOfBounds("relearn", s, () -> s.relearn(bad, 0, 4, 4));
-            Checks.outOfBounds("forget", s, () -> s.forget(bad, 0, 4, 4));
-            Checks.outOfBounds("forgetIf", s, () -> s.forgetIf(bad, 0, 4, 4, 5));
-            Checks.outOfBounds("forgetAll", s, () -> s.forgetAll(bad, 0, 0));
-            Checks.outOfBounds("clear", s, () -> s.clear(bad));
-            Checks.outOfBounds("copy", s, () -> s.copy(bad, 0));
-            Checks.outOfBounds("copy", s, () -> s.copy(0, bad));
-            Checks.outOfBounds("copy", s, () -> s.copy(bad, bad));
-            Checks.outOfBounds("pour", s, () -> s.pour(bad, 0));
-            Checks.outOfBounds("pour", s, () -> s.pour(0, bad));
-            // exceptions go ahead of -9
-            Checks.outOfBounds("pour", s, () -> s.pour(bad, bad));
-            Checks.outOfBounds("isKept", s, () -> s.isKept(bad, 0, 4, 4, 0));
-            Checks.outOfBounds("worthOr", s, () -> s.worthOr(bad, 0, 4, 4, 0));
-            Checks.outOfBounds("confirm", s, () -> s.confirm(bad, 0, 4, 4, 0));
-            Checks.outOfBounds("about", s, () -> s.about(bad, 0));
-            Checks.outOfBounds("has", s, () -> s.has(bad, 0));
-            Checks.outOfBounds("count", s, () -> s.count(bad, 0, 0));
-            Checks.outOfBounds("isSame", s, () -> s.isSame(bad, 0));
-            Checks.outOfBounds("isSame", s, () -> s.isSame(0, bad));
-            Checks.outOfBounds("isSame", s, () -> s.isSame(bad, bad));
-        }
-    }
-
-    private static void wrongCases() {
-        int[][] out = {
-            {-1, 4, 4}, {6, 4, 4}, {7, 4, 4}, {MIN, 4, 4}, {MAX, 4, 4},
-            {0, -1, 4}, {0, 21, 4}, {0, MIN, 4}, {0, MAX, 4},
-            {0, 4, -1}, {0, 4, 21}, {0, 4, MIN}, {0, 4, MAX},
-            // out goes ahead of what rests
-            {6, 0, 0}, {0, 0, 21}, {0, 21, 0}, {0, -1, 0}, {0, 0, -1},
-        };
-        Sumlarder s = filled();
-        for (int[] c : out) {
-            everyCaseCall(s, c, 1, 3);
-        }
-    }
-
-    private static void everyCaseCall(Sumlarder s, int[] c, int in, int out) {
-        Checks.illegal("know", s, () -> s.know(in, c[0], c[1], c[2]));
-        Checks.illegal("learn", s, () -> s.learn(in, c[0], c[1], c[2]));
-        Checks.illegal("relearn", s, () -> s.relearn(in, c[0], c[1], c[2]));
-        Checks.illegal("forget", s, () -> s.forget(in, c[0], c[1], c[2]));
-        Checks.illegal("forgetIf", s, () -> s.forgetIf(in, c[0], c[1], c[2], 1));
-        Checks.illegal("isKept", s, () -> s.isKept(in, c[0], c[1], c[2], 0));
-        Checks.illegal("worthOr", s, () -> s.worthOr(in, c[0], c[1], c[2], 1));
-        Checks.illegal("confirm", s, () -> s.confirm(in, c[0], c[1], c[2], 1));
-        Checks.outOfBounds("know", s, () -> s.know(out, c[0], c[1], c[2]));
-        Checks.outOfBounds("learn", s, () -> s.learn(out, c[0], c[1], c[2]));
-        Checks.outOfBounds("relearn", s, () -> s.relearn(out, c[0], c[1], c[2]));
-        Checks.outOfBounds("forget", s, () -> s.forget(out, c[0], c[1], c[2]));
-        Checks.outOfBounds("forgetIf", s, () -> s.forgetIf(out, c[0], c[1], c[2], 1));
-        Checks.outOfBounds("isKept", s, () -> s.isKept(out, c[0], c[1], c[2], 0));
-        Checks.outOfBounds("worthOr", s, () -> s.worthOr(out, c[0], c[1], c[2], 1));
-        Checks.outOfBounds("confirm", s, () -> s.confirm(out, c[0], c[1], c[2], 1));
     }
 }

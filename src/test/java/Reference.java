@@ -1,6 +1,8 @@
 import java.util.ArrayList;
 import java.util.Collections;
+import java.util.HashMap;
 import java.util.List;
+import java.util.Map;
 import java.util.TreeMap;
 
 /**
@@ -9,6 +11,8 @@ import java.util.TreeMap;
  */
 final class Reference {
     private static final List<List<List<Integer>>> WAYS = new ArrayList<>();
+    // what was counted once, by its code, so that the tests stay quick
+    private static final Map<Integer, Integer> COUNTED = new HashMap<>();
 
     private final List<TreeMap<Integer, Integer>> memories = new ArrayList<>();
     private final List<TreeMap<Integer, Integer>> ledgers = new ArrayList<>();
@@ -47,13 +51,15 @@ final class Reference {
     }
 
     static int waysOf(int kind, int number, int measure) {
-        int many = 0;
-        for (List<Integer> way : ways(number)) {
-            if (isOf(way, kind, measure)) {
-                many++;
+        return COUNTED.computeIfAbsent(code(kind, number, measure), code -> {
+            int many = 0;
+            for (List<Integer> way : ways(number)) {
+                if (isOf(way, kind, measure)) {
+                    many++;
+                }
             }
-        }
-        return many;
+            return many;
+        });
     }
 
     private static boolean isOf(List<Integer> way, int kind, int measure) {
