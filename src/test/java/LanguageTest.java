@@ -16,6 +16,8 @@ public final class LanguageTest {
         "\\bSystem\\.(?!arraycopy\\()", "\\bString\\.", "\\bArrays\\.(?!fill\\()", "\\bMath\\.",
         "\\bvar\\b", "\\bhashCode\\b", "\\bequals\\b", "\\btoString\\(\\)\\s*\\{",
         "\\bstatic\\s*\\{", "\\[\\s*\\]\\s*\\[", "\\bThread\\b", "Exact\\b", "\\bwhile\\b",
+        "\"\\s*\\+", "\\+\\s*\"", "\\binstanceof\\b", "\\bnew \\w+\\(\\)\\s*\\{",
+        "\\bfor \\([^;:]*;\\s*;",
     };
     private static final int LONGEST_METHOD = 60;
 
@@ -27,6 +29,7 @@ public final class LanguageTest {
         imports(bare);
         exceptions(bare);
         methodLengths(source);
+        whatCallsMake(bare);
         Checks.finish("LanguageTest");
     }
 
@@ -68,5 +71,18 @@ public final class LanguageTest {
             }
         }
         Checks.due("methods that are too long", lengthy, List.of());
+    }
+
+    /** All calls of a run share one room: rows are made with the object, a call makes a text alone. */
+    private static void whatCallsMake(String bare) {
+        String calls = bare.replaceAll("(?s)    public Sumlarder\\(\\) \\{.*?\n    \\}", "")
+                .replaceAll("private final \\S+ \\w+ = new ", "")
+                .replaceAll("throw new ", "");
+        Matcher made = Pattern.compile("\\bnew [^;]+|\\.clone\\(|\\.copyOf").matcher(calls);
+        List<String> seen = new ArrayList<>();
+        while (made.find()) {
+            seen.add(made.group());
+        }
+        Checks.due("what calls make", seen, List.of("new StringBuilder()"));
     }
 }
